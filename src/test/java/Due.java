@@ -17,14 +17,20 @@ final class Due {
     static final int[] FAR_OUT = {Integer.MIN_VALUE, -1000, 1000, Integer.MAX_VALUE};
 
     private static int wrong = 0;
+    private static String sentence = "";
 
     private Due() {
+    }
+
+    /** The document's words that the next answers are about: they are printed with each wrong answer. */
+    static void sentence(String words) {
+        sentence = "\"" + words + "\": ";
     }
 
     static void is(String call, long got, long want) {
         if (got != want) {
             wrong++;
-            System.out.println(call + " answered " + got + ", due is " + want);
+            System.out.println(sentence + call + " answered " + got + ", due is " + want);
         }
     }
 
@@ -38,9 +44,41 @@ final class Due {
         }
         if (got != want) {
             wrong++;
-            System.out.println(call + (got == null ? " threw nothing" : " threw " + got.getName())
+            System.out.println(sentence + call + (got == null ? " threw nothing" : " threw " + got.getName())
                     + ", due is " + want.getName());
         }
+    }
+
+    /** As refused, and nothing that can be seen of the object is changed by the call. */
+    static void refusedWhole(String call, HouseThreads2 x, Class<?> want, Call c) {
+        String before = whole(x);
+        refused(call, want, c);
+        is(call + " leaves all as it was, which", whole(x).equals(before) ? 1 : 0, 1);
+    }
+
+    /** All that can be asked of an object. */
+    static String whole(HouseThreads2 x) {
+        StringBuilder s = new StringBuilder();
+        for (int what = 0; what <= 5; what++) {
+            s.append(x.count(what)).append(' ');
+        }
+        for (int part = 0; part < x.count(0); part++) {
+            for (int what = 0; what <= 6; what++) {
+                s.append(x.told(part, what)).append(' ');
+            }
+        }
+        for (int place = 0; place <= 7; place++) {
+            s.append(x.place(place, 0)).append(' ').append(x.place(place, 1)).append(' ');
+        }
+        for (int message = 1; message <= x.count(1); message++) {
+            for (int what = 0; what <= 3; what++) {
+                s.append(x.message(message, what)).append(' ');
+            }
+        }
+        for (int i = 0; i < Math.min(400, x.count(2)); i++) {
+            s.append(x.log(i)).append(' ');
+        }
+        return s.toString();
     }
 
     /** States, AT, awaited place and held places of a part in one row. */
@@ -54,6 +92,12 @@ final class Due {
     static void place(String when, HouseThreads2 x, int place, int value, int holder) {
         is(when + ": place(" + place + ", 0)", x.place(place, 0), value);
         is(when + ": place(" + place + ", 1)", x.place(place, 1), holder);
+    }
+
+    static void turns(HouseThreads2 x, int... parts) {
+        for (int part : parts) {
+            x.turn(part);
+        }
     }
 
     static HouseThreads2 withParts(int... ranks) {
