@@ -11,6 +11,8 @@ public final class ModelTest {
     private static final int[] EDGES = {Integer.MIN_VALUE, -100, -99, -1, 0, 1, 2, 7, 8, 9, 10, 50, 51, 60, 61, 99, 100,
         399, 400, Integer.MAX_VALUE};
 
+    private static final int CLOSE = 9;
+
     /** Turns come oftenest: without them little happens. */
     private static final int[] METHODS = {0, 1, 2, 3, 4, 4, 4, 4, 4, 4, 5, 6, 7, 8, 8, 9, 10, 11, 12, 13, 14};
 
@@ -43,7 +45,10 @@ public final class ModelTest {
         int building = random.nextInt(120);
         int wrongs = random.nextInt(4) * 5;
         int places = 1 + random.nextInt(8);
-        for (int n = 0; n < CALLS; n++) {
+        // Some runs end early, so that the last call, a close, finds acts with messages going on too.
+        int length = random.nextBoolean() ? CALLS : 1 + random.nextInt(CALLS);
+        for (int n = 0; n < length; n++) {
+            boolean last = n == length - 1;
             int method = n < building && random.nextInt(4) != 0
                     ? random.nextInt(2) : METHODS[random.nextInt(METHODS.length)];
             int[] v = new int[4];
@@ -52,6 +57,10 @@ public final class ModelTest {
                 if (random.nextInt(200) < wrongs) {
                     v[i] = EDGES[random.nextInt(EDGES.length)];
                 }
+            }
+            if (last) {
+                method = CLOSE;
+                v[0] = 0;
             }
             calls.add(method + Arrays.toString(v));
             String got = answer((m, a, b, c, d) -> ask(real, m, a, b, c, d), method, v);
